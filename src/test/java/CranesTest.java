@@ -200,8 +200,10 @@ public final class CranesTest {
         check.badArgument("4: until 25", x, () -> x.zone(0, 0, 0, 5, 25));
         check.badArgument("4: begin most int", x, () -> x.zone(0, 0, 0, Integer.MAX_VALUE, 1));
         for (int i = 1; i <= 6; i++) {
-            check.due("4: zone " + i, x.zone(0, 0, 0, 0, 24), i);
+            check.due("4: zone " + i, x.zone(0, 1, 1, 0, 24), i);
         }
+        x.table(0, 9, 9, 9, 9);
+        check.due("4: past six zones", x.would(0, 1, 10, 10, 23, false), 0);
         check.badState("4: a seventh", x, () -> x.zone(0, 0, 0, 0, 1));
         check.badArgument("4: a seventh from 24", x, () -> x.zone(0, 24, 0, 0, 1));
         check.noCrane("4: a seventh of no crane", x, () -> x.zone(1, 0, 0, 0, 1));
@@ -242,6 +244,8 @@ public final class CranesTest {
         for (int i = 1; i <= 6; i++) {
             check.due("5: meeting " + i, x.meeting(0, 23, 1, 23), i);
         }
+        x.table(0, 9, 9, 9, 9);
+        check.due("5: past six meetings", x.would(0, 1, 10, 10, 22, false), 0);
         check.badState("5: a seventh", x, () -> x.meeting(0, 0, 1, 0));
         check.badArgument("5: a seventh of the same", x, () -> x.meeting(0, 0, 0, 0));
         check.noCrane("5: a seventh of no crane", x, () -> x.meeting(0, 0, 2, 0));

@@ -182,6 +182,12 @@ public final class LiftsTest {
         check.due("11: by full tenths", x.tandem(0, 1, 100, 7), 0);
         check.due("11: 70 by 2 falls", x.ofCrane(0, 5), 36);
         check.due("11: 30 by 4 falls", x.ofCrane(1, 5), 31);
+        check.due("11: a tenth", x.tandem(0, 1, 11, 1), 0);
+        check.due("11: 2 by 2 falls", x.ofCrane(0, 5), 38);
+        check.due("11: 10 by 4 falls", x.ofCrane(1, 5), 42);
+        check.due("11: nine tenths", x.tandem(0, 1, 1, 9), 0);
+        check.due("11: 1 by 2 falls", x.ofCrane(0, 5), 39);
+        check.due("11: 1 by 4 falls", x.ofCrane(1, 5), 44);
     }
 
     private static void tandemVerdicts() {

@@ -10,7 +10,8 @@ import java.util.TreeMap;
 public final class ModelTest {
     private static final int RUNS = 1500;
     private static final int CALLS = 500;
-    private static final int[] STRANGE = {-1, Integer.MIN_VALUE, Integer.MAX_VALUE, 24, 40, 41, 200, 100, -2, 3};
+    private static final int[] STRANGE = {-1, Integer.MIN_VALUE, Integer.MAX_VALUE, 24, 40, 41, 200, 100, -2, 3,
+        0, 9, 10, 11, 25, 31, 301, 5};
     private static final String[] FIRST = {"crane", "table", "zone", "meeting", "crane", "table", "zone", "meeting"};
     private static final String[] OFTEN = {"lift", "lift", "lift", "tandem", "lock", "lock", "pass", "pass", "wind",
         "table", "would", "would", "would", "tear", "rope", "crane", "zone", "meeting", "digest", "digest", "capacity",

@@ -6,6 +6,7 @@ public final class WindTest {
         windTold();
         windRefused();
         minutesGoBy();
+        gustsByLuck();
         jibsTurn();
         jibsAreFreedByWind();
         passRefused();
@@ -71,6 +72,30 @@ public final class WindTest {
         x.wind(12, 0, 0);
         x.pass(3);
         check.due("8: not lost", x.site(7), 3);
+    }
+
+    /** LUCK is 512, and 1023, once in each 1024 minutes. */
+    private static void gustsByLuck() {
+        check.due("8: 512 * 2 / 1024", windAtLuck(512, 1), 5);
+        check.due("8: 511 * 2 / 1024", windAtLuck(511, 1), 4);
+        check.due("8: 1023 * 1 / 1024", windAtLuck(1023, 0), 4);
+        check.due("8: 1023 * 11 / 1024", windAtLuck(1023, 10), 14);
+        check.due("8: 0 * 11 / 1024", windAtLuck(0, 10), 4);
+    }
+
+    private static int windAtLuck(int wanted, int gusts) {
+        Slewfree x = new Slewfree();
+        x.wind(4, gusts, 0);
+        int minutes = 0;
+        for (int luck = 31; luck != wanted || minutes == 0; minutes++) {
+            luck = (53 * luck + 101) % 1024;
+        }
+        for (; minutes > 300; minutes -= 300) {
+            x.pass(300);
+        }
+        int wind = x.pass(minutes);
+        check.due("8: luck", x.site(6), wanted);
+        return wind;
     }
 
     private static void jibsTurn() {

@@ -13,6 +13,7 @@ public final class WouldBeTest {
         bearableAsked();
         bearableRefused();
         soundAlways();
+        soundByFortyPages();
         digestOfNothing();
         digestOfAll();
         check.end();
@@ -174,6 +175,8 @@ public final class WouldBeTest {
         Slewfree x = site();
         check.due("21: told", x.isSound(), true);
         x.lift(0, 80, 10, 10, 0);
+        x.lift(1, 5, 10, 40, 0);
+        check.due("21: lifts at and below their least capacity", x.isSound(), true);
         x.lift(1, 199, 10, 10, 0);
         check.due("21: a lift refused above its capacity", x.isSound(), true);
         x.tandem(0, 1, 90, 5);
@@ -188,6 +191,17 @@ public final class WouldBeTest {
         check.due("21: a page torn out", x.isSound(), true);
         x.rope(0);
         check.due("21: a rope renewed", x.isSound(), true);
+    }
+
+    private static void soundByFortyPages() {
+        Slewfree x = site();
+        for (int i = 0; i < 41; i++) {
+            x.lift(0, 1, 10, 10, 0);
+            x.rope(0);
+        }
+        check.due("21: 40 pages", x.site(12), 40);
+        check.due("21: whole", x.site(14), 1);
+        check.due("21: sound", x.isSound(), true);
     }
 
     private static void digestOfNothing() {
