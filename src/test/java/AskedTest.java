@@ -5,11 +5,8 @@ public final class AskedTest {
     public static void main(String[] args) {
         craneAsked();
         craneSteps();
-        craneRefused();
         pageAsked();
-        pageRefused();
         siteAsked();
-        siteRefused();
         jibsAsked();
         check.end();
     }
@@ -59,17 +56,6 @@ public final class AskedTest {
         }
     }
 
-    private static void craneRefused() {
-        Slewfree x = new Slewfree();
-        check.noCrane("14: no crane", x, () -> x.ofCrane(0, 0));
-        x.crane(20, 2);
-        check.noCrane("14: crane 1, what 10", x, () -> x.ofCrane(1, 10));
-        check.noCrane("14: crane -1", x, () -> x.ofCrane(-1, 0));
-        check.noCrane("14: crane 3", x, () -> x.ofCrane(3, 0));
-        check.badArgument("14: what 10", x, () -> x.ofCrane(0, 10));
-        check.badArgument("14: what -1", x, () -> x.ofCrane(0, -1));
-    }
-
     private static void pageAsked() {
         Slewfree x = new Slewfree();
         x.crane(20, 2);
@@ -93,18 +79,6 @@ public final class AskedTest {
         check.due("15: least at the first step", x.page(2, 6), 20);
     }
 
-    private static void pageRefused() {
-        Slewfree x = new Slewfree();
-        check.noPage("15: none yet", x, () -> x.page(0, 0));
-        x.crane(20, 2);
-        x.lock(0, false);
-        check.noPage("15: page 1, what 7", x, () -> x.page(1, 7));
-        check.noPage("15: page -1", x, () -> x.page(-1, 0));
-        check.noPage("15: page 40", x, () -> x.page(40, 0));
-        check.badArgument("15: what 7", x, () -> x.page(0, 7));
-        check.badArgument("15: what -1", x, () -> x.page(0, -1));
-    }
-
     private static void siteAsked() {
         Slewfree x = new Slewfree();
         x.crane(20, 2);
@@ -126,13 +100,6 @@ public final class AskedTest {
         for (int what = 0; what <= 16; what++) {
             check.due("16: site(" + what + ")", x.site(what), due[what]);
         }
-    }
-
-    private static void siteRefused() {
-        Slewfree x = new Slewfree();
-        check.badArgument("16: what 17", x, () -> x.site(17));
-        check.badArgument("16: what -1", x, () -> x.site(-1));
-        check.badArgument("16: least int", x, () -> x.site(Integer.MIN_VALUE));
     }
 
     private static void jibsAsked() {

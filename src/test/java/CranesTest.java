@@ -5,17 +5,12 @@ public final class CranesTest {
     public static void main(String[] args) {
         newObject();
         craneComes();
-        craneRefused();
         craneComesByStorm();
         tableTold();
-        tableRefused();
         zoneTold();
         zoneFromBehind();
-        zoneRefused();
         meetingTold();
-        meetingRefused();
         ropeRenewed();
-        ropeRefused();
         check.end();
     }
 
@@ -49,25 +44,6 @@ public final class CranesTest {
         check.due("2: reach of 2", x.ofCrane(2, 0), 25);
         check.due("2: no page", x.site(12), 0);
         check.due("2: table is 0", x.capacity(1, 40), 0);
-    }
-
-    private static void craneRefused() {
-        Slewfree x = new Slewfree();
-        check.badArgument("2: reach 9", x, () -> x.crane(9, 2));
-        check.badArgument("2: reach 41", x, () -> x.crane(41, 4));
-        check.badArgument("2: falls 3", x, () -> x.crane(20, 3));
-        check.badArgument("2: falls 1", x, () -> x.crane(20, 1));
-        check.badArgument("2: falls 5", x, () -> x.crane(20, 5));
-        check.badArgument("2: falls 0", x, () -> x.crane(20, 0));
-        check.badArgument("2: falls -2", x, () -> x.crane(20, -2));
-        check.badArgument("2: least int", x, () -> x.crane(Integer.MIN_VALUE, 2));
-        check.badArgument("2: most int", x, () -> x.crane(Integer.MAX_VALUE, 2));
-        x.crane(10, 2);
-        x.crane(10, 2);
-        x.crane(10, 2);
-        check.badState("2: a fourth", x, () -> x.crane(10, 2));
-        check.badArgument("2: a fourth of reach 9", x, () -> x.crane(9, 2));
-        check.badArgument("2: a fourth of falls 3", x, () -> x.crane(10, 3));
     }
 
     private static void craneComesByStorm() {
@@ -106,27 +82,6 @@ public final class CranesTest {
         check.due("3: by the wind of now", x.table(0, 50, 40, 20, 10), 30);
         check.due("3: never below 0", x.table(0, 1, 1, 1, 1), 0);
         check.due("3: no page", x.site(13), 1);
-    }
-
-    private static void tableRefused() {
-        Slewfree x = new Slewfree();
-        check.noCrane("3: no crane", x, () -> x.table(0, 1, 1, 1, 1));
-        x.crane(40, 2);
-        x.table(0, 9, 8, 7, 6);
-        check.noCrane("3: crane -1", x, () -> x.table(-1, 1, 1, 1, 1));
-        check.noCrane("3: crane 1, load 100", x, () -> x.table(1, 100, 1, 1, 1));
-        check.badArgument("3: ten 100", x, () -> x.table(0, 100, 1, 1, 1));
-        check.badArgument("3: ten -1", x, () -> x.table(0, -1, -1, -1, -1));
-        check.badArgument("3: twenty more", x, () -> x.table(0, 5, 6, 1, 1));
-        check.badArgument("3: twenty -1", x, () -> x.table(0, 5, -1, -1, -1));
-        check.badArgument("3: thirty more", x, () -> x.table(0, 5, 4, 5, 1));
-        check.badArgument("3: thirty -1", x, () -> x.table(0, 5, 4, -1, -1));
-        check.badArgument("3: forty more", x, () -> x.table(0, 5, 4, 3, 4));
-        check.badArgument("3: forty -1", x, () -> x.table(0, 5, 4, 3, -1));
-        check.due("3: capacity(0, 10) is as it was", x.capacity(0, 10), 9);
-        check.due("3: capacity(0, 20) is as it was", x.capacity(0, 20), 8);
-        check.due("3: capacity(0, 30) is as it was", x.capacity(0, 30), 7);
-        check.due("3: capacity(0, 40) is as it was", x.capacity(0, 40), 6);
     }
 
     private static void zoneTold() {
@@ -182,33 +137,6 @@ public final class CranesTest {
         check.due("4: its first angle round over 0", x.would(0, 1, 10, 10, 22, true), 8);
     }
 
-    private static void zoneRefused() {
-        Slewfree x = new Slewfree();
-        check.noCrane("4: no crane", x, () -> x.zone(0, 0, 0, 0, 1));
-        x.crane(20, 2);
-        check.noCrane("4: crane 1, from 24", x, () -> x.zone(1, 24, 0, 0, 1));
-        check.noCrane("4: crane -1", x, () -> x.zone(-1, 0, 0, 0, 1));
-        check.badArgument("4: from -1", x, () -> x.zone(0, -1, 0, 0, 1));
-        check.badArgument("4: from 24", x, () -> x.zone(0, 24, 0, 0, 1));
-        check.badArgument("4: to -1", x, () -> x.zone(0, 0, -1, 0, 1));
-        check.badArgument("4: to 24", x, () -> x.zone(0, 0, 24, 0, 1));
-        check.badArgument("4: begin -1", x, () -> x.zone(0, 0, 0, -1, 1));
-        check.badArgument("4: begin 24", x, () -> x.zone(0, 0, 0, 24, 25));
-        check.badArgument("4: begin 24 until 24", x, () -> x.zone(0, 0, 0, 24, 24));
-        check.badArgument("4: until is begin", x, () -> x.zone(0, 0, 0, 5, 5));
-        check.badArgument("4: until ahead of begin", x, () -> x.zone(0, 0, 0, 5, 4));
-        check.badArgument("4: until 25", x, () -> x.zone(0, 0, 0, 5, 25));
-        check.badArgument("4: begin most int", x, () -> x.zone(0, 0, 0, Integer.MAX_VALUE, 1));
-        for (int i = 1; i <= 6; i++) {
-            check.due("4: zone " + i, x.zone(0, 1, 1, 0, 24), i);
-        }
-        x.table(0, 9, 9, 9, 9);
-        check.due("4: past six zones", x.would(0, 1, 10, 10, 23, false), 0);
-        check.badState("4: a seventh", x, () -> x.zone(0, 0, 0, 0, 1));
-        check.badArgument("4: a seventh from 24", x, () -> x.zone(0, 24, 0, 0, 1));
-        check.noCrane("4: a seventh of no crane", x, () -> x.zone(1, 0, 0, 0, 1));
-    }
-
     private static void meetingTold() {
         Slewfree x = new Slewfree();
         for (int i = 0; i < 3; i++) {
@@ -226,29 +154,6 @@ public final class CranesTest {
         x.lift(2, 1, 10, 10, 1);
         check.due("5: the other one has gone", x.would(1, 1, 10, 10, 3, false), 0);
         check.due("5: no page but the lift's", x.site(13), 1);
-    }
-
-    private static void meetingRefused() {
-        Slewfree x = new Slewfree();
-        x.crane(20, 2);
-        check.noCrane("5: no other", x, () -> x.meeting(0, 0, 1, 0));
-        check.noCrane("5: no first", x, () -> x.meeting(1, 0, 0, 0));
-        check.noCrane("5: no other, the same", x, () -> x.meeting(7, 24, 7, 24));
-        check.noCrane("5: other -1", x, () -> x.meeting(0, 24, -1, 0));
-        check.badArgument("5: the same", x, () -> x.meeting(0, 0, 0, 1));
-        x.crane(20, 2);
-        check.badArgument("5: angle -1", x, () -> x.meeting(0, -1, 1, 0));
-        check.badArgument("5: angle 24", x, () -> x.meeting(0, 24, 1, 0));
-        check.badArgument("5: otherAngle -1", x, () -> x.meeting(0, 0, 1, -1));
-        check.badArgument("5: otherAngle 24", x, () -> x.meeting(0, 0, 1, 24));
-        for (int i = 1; i <= 6; i++) {
-            check.due("5: meeting " + i, x.meeting(0, 23, 1, 23), i);
-        }
-        x.table(0, 9, 9, 9, 9);
-        check.due("5: past six meetings", x.would(0, 1, 10, 10, 22, false), 0);
-        check.badState("5: a seventh", x, () -> x.meeting(0, 0, 1, 0));
-        check.badArgument("5: a seventh of the same", x, () -> x.meeting(0, 0, 0, 0));
-        check.noCrane("5: a seventh of no crane", x, () -> x.meeting(0, 0, 2, 0));
     }
 
     private static void ropeRenewed() {
@@ -271,14 +176,5 @@ public final class CranesTest {
         check.due("6: the other rope", x.ofCrane(1, 5), 4);
         check.due("6: no page", x.site(13), pages);
         check.due("6: lifts again", x.lift(0, 1, 10, 10, 0), 0);
-    }
-
-    private static void ropeRefused() {
-        Slewfree x = new Slewfree();
-        check.noCrane("6: no crane", x, () -> x.rope(0));
-        x.crane(20, 2);
-        check.noCrane("6: crane 1", x, () -> x.rope(1));
-        check.noCrane("6: crane -1", x, () -> x.rope(-1));
-        check.noCrane("6: crane 3", x, () -> x.rope(3));
     }
 }

@@ -8,30 +8,18 @@ public final class LiftsTest {
         liftVerdictsInOrder();
         liftStepByStep();
         liftTooHeavy();
-        liftRefused();
         tandemDone();
         tandemVerdicts();
-        tandemRefused();
         pagesAndSeals();
         pagesAreForty();
         pageIsTorn();
         lastPageIsTorn();
-        tearRefused();
         knocks();
         check.end();
     }
 
-    private static Slewfree siteOf(int cranes) {
-        Slewfree x = new Slewfree();
-        for (int i = 0; i < cranes; i++) {
-            x.crane(40, 2);
-            x.table(i, 80, 60, 40, 20);
-        }
-        return x;
-    }
-
     private static void liftDone() {
-        Slewfree x = siteOf(2);
+        Slewfree x = Sites.of(2);
         check.due("10: done", x.lift(1, 20, 15, 40, 13), 0);
         check.due("10: angle", x.ofCrane(1, 2), 13);
         check.due("10: radius", x.ofCrane(1, 3), 40);
@@ -72,7 +60,7 @@ public final class LiftsTest {
     }
 
     private static void liftVerdictsInOrder() {
-        Slewfree x = siteOf(2);
+        Slewfree x = Sites.of(2);
         x.lift(0, 80, 10, 10, 0);
         x.lift(0, 80, 10, 10, 0);
         check.due("10: worn", x.ofCrane(0, 6), 1);
@@ -98,7 +86,7 @@ public final class LiftsTest {
     }
 
     private static void liftStepByStep() {
-        Slewfree x = siteOf(1);
+        Slewfree x = Sites.of(1);
         x.crane(40, 2);
         x.zone(0, 2, 2, 0, 24);
         x.meeting(0, 1, 1, 0);
@@ -114,7 +102,7 @@ public final class LiftsTest {
     }
 
     private static void liftTooHeavy() {
-        Slewfree x = siteOf(1);
+        Slewfree x = Sites.of(1);
         check.due("10: as much as its capacity", x.lift(0, 46, 27, 27, 0), 0);
         check.due("10: 1 more", x.lift(0, 47, 27, 27, 0), 3);
         check.due("10: radius as it was", x.ofCrane(0, 3), 27);
@@ -134,28 +122,6 @@ public final class LiftsTest {
         x.pass(1);
         x.table(0, 1, 1, 1, 1);
         check.due("10: as it was then", x.page(6, 6), 42);
-    }
-
-    private static void liftRefused() {
-        Slewfree x = new Slewfree();
-        check.noCrane("10: no crane", x, () -> x.lift(0, 1, 10, 10, 0));
-        x.crane(20, 2);
-        x.table(0, 50, 40, 0, 0);
-        check.noCrane("10: crane 1, load 0", x, () -> x.lift(1, 0, 10, 10, 0));
-        check.noCrane("10: crane -1", x, () -> x.lift(-1, 1, 10, 10, 0));
-        check.badArgument("10: load 0", x, () -> x.lift(0, 0, 10, 10, 0));
-        check.badArgument("10: load 200", x, () -> x.lift(0, 200, 10, 10, 0));
-        check.badArgument("10: from 9", x, () -> x.lift(0, 1, 9, 10, 0));
-        check.badArgument("10: from 21", x, () -> x.lift(0, 1, 21, 10, 0));
-        check.badArgument("10: to 9", x, () -> x.lift(0, 1, 10, 9, 0));
-        check.badArgument("10: to 21", x, () -> x.lift(0, 1, 10, 21, 0));
-        check.badArgument("10: angle -1", x, () -> x.lift(0, 1, 10, 10, -1));
-        check.badArgument("10: angle 24", x, () -> x.lift(0, 1, 10, 10, 24));
-        x.lock(0, false);
-        check.badArgument("10: load 0 by a free jib", x, () -> x.lift(0, 0, 10, 10, 0));
-        x.lock(0, true);
-        check.due("10: load 199", x.lift(0, 199, 10, 10, 0), 3);
-        check.due("10: from and to its reach", x.lift(0, 1, 20, 20, 23), 0);
     }
 
     private static void tandemDone() {
@@ -191,7 +157,7 @@ public final class LiftsTest {
     }
 
     private static void tandemVerdicts() {
-        Slewfree x = siteOf(3);
+        Slewfree x = Sites.of(3);
         check.due("11: the first one is too weak", x.tandem(0, 1, 99, 9), 3);
         check.due("11: the other one is too weak", x.tandem(0, 1, 101, 2), 3);
         check.due("11: both just bear it", x.tandem(0, 1, 159, 5), 0);
@@ -223,24 +189,8 @@ public final class LiftsTest {
         check.due("11: less 2", x.tandem(1, 2, 156, 5), 0);
     }
 
-    private static void tandemRefused() {
-        Slewfree x = siteOf(1);
-        check.noCrane("11: no other", x, () -> x.tandem(0, 1, 1, 1));
-        check.noCrane("11: no first", x, () -> x.tandem(1, 0, 1, 1));
-        check.noCrane("11: no first, the same", x, () -> x.tandem(3, 3, 0, 0));
-        check.noCrane("11: other -1, load 0", x, () -> x.tandem(0, -1, 0, 0));
-        check.badArgument("11: the same", x, () -> x.tandem(0, 0, 1, 1));
-        x.crane(40, 2);
-        check.badArgument("11: load 0", x, () -> x.tandem(0, 1, 0, 1));
-        check.badArgument("11: load 200", x, () -> x.tandem(0, 1, 200, 1));
-        check.badArgument("11: part 0", x, () -> x.tandem(0, 1, 1, 0));
-        check.badArgument("11: part 10", x, () -> x.tandem(0, 1, 1, 10));
-        x.lock(0, false);
-        check.badArgument("11: load 0 by a free jib", x, () -> x.tandem(0, 1, 0, 1));
-    }
-
     private static void pagesAndSeals() {
-        Slewfree x = siteOf(2);
+        Slewfree x = Sites.of(2);
         x.lift(0, 70, 10, 10, 0);
         check.due("10: seal of page 0", x.page(0, 5), 31 + 70);
         x.wind(9, 0, 0);
@@ -266,7 +216,7 @@ public final class LiftsTest {
     }
 
     private static void pagesAreForty() {
-        Slewfree x = siteOf(2);
+        Slewfree x = Sites.of(2);
         for (int i = 0; i < 19; i++) {
             x.lock(0, false);
             x.lock(0, true);
@@ -301,7 +251,7 @@ public final class LiftsTest {
     }
 
     private static void pageIsTorn() {
-        Slewfree x = siteOf(1);
+        Slewfree x = Sites.of(1);
         for (int load = 1; load <= 5; load++) {
             x.lift(0, load, 10, 10 + load, 0);
         }
@@ -331,7 +281,7 @@ public final class LiftsTest {
     }
 
     private static void lastPageIsTorn() {
-        Slewfree x = siteOf(1);
+        Slewfree x = Sites.of(1);
         x.lift(0, 1, 10, 10, 0);
         x.lift(0, 2, 10, 10, 0);
         x.tear(1);
@@ -341,18 +291,7 @@ public final class LiftsTest {
         check.due("12: empty, no fault", x.site(15), -1);
         check.due("12: empty, not whole", x.site(14), 0);
         check.due("12: pages", x.site(12), 0);
-        check.noPage("12: none is left", x, () -> x.tear(0));
-    }
-
-    private static void tearRefused() {
-        Slewfree x = siteOf(1);
-        check.noPage("12: none yet", x, () -> x.tear(0));
-        check.noPage("12: -1 of none", x, () -> x.tear(-1));
-        x.lift(0, 1, 10, 10, 0);
-        check.noPage("12: page 1", x, () -> x.tear(1));
-        check.noPage("12: page -1", x, () -> x.tear(-1));
-        check.noPage("12: page 40", x, () -> x.tear(40));
-        check.noPage("12: most int", x, () -> x.tear(Integer.MAX_VALUE));
+        check.thrown("12: none is left", x, Check.NO_SUCH, y -> y.tear(0));
     }
 
     private static void knocks() {

@@ -4,14 +4,11 @@ public final class WindTest {
 
     public static void main(String[] args) {
         windTold();
-        windRefused();
         minutesGoBy();
         gustsByLuck();
         jibsTurn();
         jibsAreFreedByWind();
-        passRefused();
         jibsAreLocked();
-        lockRefused();
         check.end();
     }
 
@@ -28,17 +25,6 @@ public final class WindTest {
         x.wind(20, 0, 0);
         check.due("7: wind stays again", x.site(2), 6);
         check.due("7: no page", x.site(13), 0);
-    }
-
-    private static void windRefused() {
-        Slewfree x = new Slewfree();
-        x.wind(1, 2, 3);
-        check.badArgument("7: base -1", x, () -> x.wind(-1, 0, 0));
-        check.badArgument("7: base 31", x, () -> x.wind(31, 0, 0));
-        check.badArgument("7: gusts -1", x, () -> x.wind(0, -1, 0));
-        check.badArgument("7: gusts 11", x, () -> x.wind(0, 11, 0));
-        check.badArgument("7: direction -1", x, () -> x.wind(0, 0, -1));
-        check.badArgument("7: direction 24", x, () -> x.wind(0, 0, 24));
     }
 
     /** LUCK by its rule: 31, 720, 373, 414, 539, 1020, 913, 362. */
@@ -145,25 +131,6 @@ public final class WindTest {
         check.due("8: lost", x.site(7), 2);
     }
 
-    private static void passRefused() {
-        Slewfree x = new Slewfree();
-        x.wind(13, 3, 4);
-        check.badArgument("8: 0", x, () -> x.pass(0));
-        check.badArgument("8: -1", x, () -> x.pass(-1));
-        check.badArgument("8: 301", x, () -> x.pass(301));
-        check.badArgument("8: most int", x, () -> x.pass(Integer.MAX_VALUE));
-        for (int i = 0; i < 33; i++) {
-            x.pass(300);
-        }
-        check.badState("8: to 10000", x, () -> x.pass(100));
-        x.pass(99);
-        check.due("8: the last minute", x.site(0), 9999);
-        check.due("8: its hour", x.site(1), 22);
-        check.badState("8: one more", x, () -> x.pass(1));
-        check.badArgument("8: 0 at the end", x, () -> x.pass(0));
-        check.badArgument("8: 301 at the end", x, () -> x.pass(301));
-    }
-
     private static void jibsAreLocked() {
         Slewfree x = new Slewfree();
         x.crane(20, 2);
@@ -186,21 +153,5 @@ public final class WindTest {
         check.due("9: load", x.page(1, 3), 0);
         check.due("9: verdict", x.page(1, 4), 0);
         check.due("9: least capacity", x.page(1, 6), -1);
-    }
-
-    private static void lockRefused() {
-        Slewfree x = new Slewfree();
-        check.noCrane("9: no crane", x, () -> x.lock(0, false));
-        x.crane(20, 2);
-        x.wind(13, 0, 0);
-        x.pass(1);
-        check.badState("9: by wind 13", x, () -> x.lock(0, true));
-        check.noCrane("9: crane 1 by wind 13", x, () -> x.lock(1, true));
-        check.noCrane("9: crane -1", x, () -> x.lock(-1, false));
-        check.due("9: set free by wind 13", x.lock(0, false), false);
-        x.wind(0, 0, 0);
-        check.badState("9: wind stays", x, () -> x.lock(0, true));
-        x.pass(1);
-        check.due("9: wind has gone", x.lock(0, true), false);
     }
 }

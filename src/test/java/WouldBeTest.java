@@ -6,12 +6,9 @@ public final class WouldBeTest {
         capacityByRadius();
         capacityByFalls();
         capacityByWind();
-        capacityRefused();
         wouldByVerdict();
         wouldByStep();
-        wouldRefused();
         bearableAsked();
-        bearableRefused();
         soundAlways();
         soundByFortyPages();
         digestOfNothing();
@@ -56,18 +53,6 @@ public final class WouldBeTest {
             check.due("18: capacity by wind " + winds[i], x.capacity(0, 10), due[i]);
             check.due("18: capacity by 4 falls, wind " + winds[i], x.capacity(1, 10), dueByFour[i]);
         }
-    }
-
-    private static void capacityRefused() {
-        Slewfree x = new Slewfree();
-        check.noCrane("18: no crane", x, () -> x.capacity(0, 10));
-        x.crane(25, 2);
-        check.noCrane("18: crane 1, radius 9", x, () -> x.capacity(1, 9));
-        check.noCrane("18: crane -1", x, () -> x.capacity(-1, 10));
-        check.badArgument("18: radius 9", x, () -> x.capacity(0, 9));
-        check.badArgument("18: radius 26", x, () -> x.capacity(0, 26));
-        check.badArgument("18: least int", x, () -> x.capacity(0, Integer.MIN_VALUE));
-        check.due("18: at its reach", x.capacity(0, 25), 0);
     }
 
     private static Slewfree site() {
@@ -119,24 +104,6 @@ public final class WouldBeTest {
         check.due("19: no step, if worn", x.would(0, 199, 10, 40, 6, true), -1);
     }
 
-    private static void wouldRefused() {
-        Slewfree x = new Slewfree();
-        check.noCrane("19: no crane", x, () -> x.would(0, 1, 10, 10, 0, true));
-        x.crane(20, 2);
-        check.noCrane("19: crane 1, load 0", x, () -> x.would(1, 0, 10, 10, 0, false));
-        check.noCrane("19: crane -1", x, () -> x.would(-1, 1, 10, 10, 0, false));
-        check.badArgument("19: load 0", x, () -> x.would(0, 0, 10, 10, 0, true));
-        check.badArgument("19: load 200", x, () -> x.would(0, 200, 10, 10, 0, true));
-        check.badArgument("19: from 9", x, () -> x.would(0, 1, 9, 10, 0, false));
-        check.badArgument("19: from 21", x, () -> x.would(0, 1, 21, 10, 0, false));
-        check.badArgument("19: to 9", x, () -> x.would(0, 1, 10, 9, 0, true));
-        check.badArgument("19: to 21", x, () -> x.would(0, 1, 10, 21, 0, true));
-        check.badArgument("19: angle -1", x, () -> x.would(0, 1, 10, 10, -1, false));
-        check.badArgument("19: angle 24", x, () -> x.would(0, 1, 10, 10, 24, false));
-        x.lock(0, false);
-        check.badArgument("19: load 0 by a free jib", x, () -> x.would(0, 0, 10, 10, 0, false));
-    }
-
     private static void bearableAsked() {
         Slewfree x = new Slewfree();
         x.crane(40, 2);
@@ -157,17 +124,6 @@ public final class WouldBeTest {
         check.due("20: by 4 falls 7", x.bearable(1, 20), 12);
         check.due("20: by 4 falls 1", x.bearable(1, 30), 8);
         check.due("20: by 4 falls -1", x.bearable(1, 40), -1);
-    }
-
-    private static void bearableRefused() {
-        Slewfree x = new Slewfree();
-        check.noCrane("20: no crane", x, () -> x.bearable(0, 10));
-        x.crane(25, 2);
-        check.noCrane("20: crane 1, radius 9", x, () -> x.bearable(1, 9));
-        check.noCrane("20: crane -1", x, () -> x.bearable(-1, 10));
-        check.badArgument("20: radius 9", x, () -> x.bearable(0, 9));
-        check.badArgument("20: radius 26", x, () -> x.bearable(0, 26));
-        check.due("20: at its reach", x.bearable(0, 25), -1);
     }
 
     /** No calls lead to a site that is not sound; so it is true in every state that is told here. */
