@@ -36,6 +36,7 @@ public final class RefusedTest {
         wind();
         pass();
         lock();
+        sitesToLiftAreSuch();
         lift();
         tandem();
         tear();
@@ -179,6 +180,15 @@ public final class RefusedTest {
         Slewfree x = Sites.inWind(2, 13);
         x.wind(0, 0, 0);
         return x;
+    }
+
+    /** The sites to lift on are what they are made for. */
+    private static void sitesToLiftAreSuch() {
+        for (int crane = 0; crane < 3; crane++) {
+            check.due("the ropes are worn", wornSite().would(crane, 1, 10, 10, 0, false), 2);
+            check.due("the jibs are free", stormSite().would(crane, 1, 10, 10, 0, false), 1);
+        }
+        check.due("the log is full", wornSite().site(12), 40);
     }
 
     private static void lift() {
